@@ -11,6 +11,7 @@ public final class SentOutTest {
         rounds();
         roundTies();
         countries();
+        fullHouse();
         nothingChanges();
         T.end();
     }
@@ -160,6 +161,36 @@ public final class SentOutTest {
             x.does(i % 2);
         }
         T.due("three are solved", x.country(), 0);
+    }
+
+    /** As many rooms, doings and suspects as there can be, all numbers as great as they can be. */
+    private static void fullHouse() {
+        DoorCases x = Due.told("r30 3 99;r30 3 99;r30 3 99;r30 3 99;r30 1 99;d9 30;d9 30;d9 30;d9 30;d9 30;"
+            + "s31;s31;s31;s31;s31;s0;c5;w9;n500;");
+        row(x, 3, 60, 0, 0);
+        row(x, 4, 120, 0, 0, 1, 0);
+        T.due("loved()", x.loved(), 0);
+        evening(x, 495, 396, 0, 1, 2, 3, 4);
+        T.due("country()", x.country(), 180);
+        T.due("next()", x.next(), 0);
+        T.due("questions()", x.questions(), 1);
+        T.due("which(4, 27)", x.which(4, 27), 15);
+        T.due("odds(4, 4, 0, 6, 0)", x.odds(4, 4, 0, 6, 0), 1);
+        T.due("goes(4)", x.goes(4), 36);
+        T.due("asks(4)", x.asks(4), 0);
+        T.due("left", x.now(6), 32);
+        for (int i = 0; i < 4; i++) {
+            T.due("does(" + (4 - i % 2) + ")", x.does(4 - i % 2), i / 3);
+        }
+        T.due("earned", x.now(4), 99);
+        T.due("rate(5, 3)", x.rate(5, 3), 129);
+        evening(x, 396, 276, 3, 2, 1, 0);
+        // A row of the most doings there can be: one takes 1, the other nothing.
+        DoorCases slow = Due.told("r30 1 1;d1 1;d0 30;");
+        T.due("the longest row, minutes", slow.soonest(0, -1), 31 + 30 * 30);
+        T.due("the longest row, doings", slow.soonest(0, -2), 61);
+        T.due("the longest row, its last one", slow.soonest(0, 60), 0);
+        T.due("the longest row, one beyond", slow.soonest(0, 61), -5);
     }
 
     private static void nothingChanges() {

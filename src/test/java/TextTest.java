@@ -9,6 +9,8 @@ public final class TextTest {
         faults();
         faultChangesNothing();
         readAnew();
+        readAgainAndAgain();
+        fullTexts();
         counts();
         T.end();
     }
@@ -172,6 +174,38 @@ public final class TextTest {
         T.due("anew: back(0)", x.back(0), DoorCases.STATE);
         T.due("anew: back(1)", x.back(1), DoorCases.STATE);
         T.due("anew: the trace goes on", x.trace(), 1);
+    }
+
+    private static void readAgainAndAgain() {
+        DoorCases x = new DoorCases();
+        String text = "r1 1 1;r2 2 2;d3 4;d5 6;s7;s8;c1;w3;n77;";
+        for (int i = 0; i < 3; i++) {
+            T.due("the same text again", Due.tell(x, text), 9);
+            T.due("two rooms again", x.count(0), 2);
+            T.due("two doings again", x.count(1), 2);
+            T.due("two suspects again", x.count(2), 2);
+            T.due("a text with a fault at its end", Due.tell(x, text + "x"), -10 - text.length());
+        }
+        T.due("a lesser text", Due.tell(x, "s1;"), 1);
+        T.due("culprit at first", x.count(3), 0);
+        T.due("walk at first", x.count(4), 1);
+        T.due("night at first", x.count(5), 120);
+        T.due("no culprit beyond the lesser text", Due.tell(x, "s1;c1;"), -14);
+    }
+
+    /** Texts of 200 letters, which end just where the row of letters ends. */
+    private static void fullTexts() {
+        items(" ".repeat(200), 0);
+        items(" ".repeat(193) + "r1 1 1;", 1);
+        items("r1 1 1;" + " ".repeat(193), 1);
+        fault(" ".repeat(199) + "r", 200);
+        fault(" ".repeat(194) + "r1 1 1", 200);
+        fault("n" + "9".repeat(199), 1);
+        fault("n" + "0".repeat(199), 1);
+        fault("n1" + " ".repeat(198), 200);
+        fault("n" + " ".repeat(199), 200);
+        fault(" ".repeat(199) + "x", 199);
+        fault(" ".repeat(199) + ";", 199);
     }
 
     private static void counts() {

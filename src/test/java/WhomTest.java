@@ -52,6 +52,8 @@ public final class WhomTest {
         both("s0;s1;s2;s3;s4;s5;", 0, 3);
         both("s0;s0;s1;s1;s1;s0;", 0, 1);
         both("s0;s1;s3;s7;s15;s31;", 2, 3);
+        // Who begins with the best next question needs three here.
+        both("s6;s20;s1;s1;s1;s0;", 0, 2);
         DoorCases x = Due.told("r0 0 0;s1;s2;s4;s8;s16;c4;");
         x.goes(0);
         x.asks(0);
