@@ -18,6 +18,7 @@ public final class HouseEdgesTest {
         nows();
         whereHeIs();
         counts();
+        fiveHundredAndTwelve();
         e.end();
     }
 
@@ -225,5 +226,21 @@ public final class HouseEdgesTest {
         for (int what : new int[] {-1, 8, Edges.LEAST, Edges.GREATEST}) {
             e.unchanged("count(" + what + ")", FULL_HOUSE, y -> y.goes(0), y -> y.count(what), Edges.BAD);
         }
+    }
+
+    private static void fiveHundredAndTwelve() {
+        e.sentence("An object is used for at most 512 calls after it has been made; what later calls answer is free.");
+        DoorCases x = new DoorCases();
+        Due.type(x, "r9 1 1;d0 1;");
+        x.house();
+        x.goes(0);
+        for (int i = 0; i < 486; i++) {
+            x.does(0);
+        }
+        for (int i = 9; i >= 0; i--) {
+            e.due("undo(), the " + (510 - i) + "-th call", x.undo(), i);
+        }
+        e.due("now(7), the 511th call", x.now(7), 0);
+        e.due("now(2), the 512th call", x.now(2), 476);
     }
 }

@@ -45,7 +45,8 @@ public final class ModelTest {
         if (pick(3) == 0) {
             tellSome();
         }
-        while (calls < CALLS) {
+        // Some steps make two calls, and what is answered behind the 512th is free.
+        while (calls < CALLS - 1) {
             someCall();
         }
     }

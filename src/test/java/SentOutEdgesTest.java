@@ -365,7 +365,18 @@ public final class SentOutEdgesTest {
         }
         e.due("the soonest of three", Due.told("r9 1 1;r0 1 1;r3 1 1;d1 1;d4 2;d9 4;d5 3;").country(), 1 + 2);
         e.due("the soonest of five", Due.told("r9 1 1;r8 1 1;r0 1 1;r3 1 1;r1 1 1;d1 1;d4 2;d9 4;").country(), 1 + 2 + 2);
+        everyOrder("", "03589");
         e.due("NIGHT does not count", Due.told("r0 1 1;r0 1 1;d1 30;n1;").country(), 60);
+    }
+
+    /** Rooms of 1, 2, 3, 4 and 5 minutes, in every order: the three soonest make more than half. */
+    private static void everyOrder(String rooms, String feelings) {
+        if (feelings.isEmpty()) {
+            e.due("the soonest of " + rooms, Due.told(rooms + "d1 1;d4 2;d6 3;d9 4;").country(), 1 + 2 + 3);
+        }
+        for (int i = 0; i < feelings.length(); i++) {
+            everyOrder(rooms + "r" + feelings.charAt(i) + " 1 1;", feelings.substring(0, i) + feelings.substring(i + 1));
+        }
     }
 
     private static void solvedCount() {

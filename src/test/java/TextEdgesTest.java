@@ -33,6 +33,8 @@ public final class TextEdgesTest {
         emptyThen();
         faultChangesNothing();
         readAnew();
+        readAnewInARoom();
+        readAgainAndAgain();
         e.end();
     }
 
@@ -455,5 +457,36 @@ public final class TextEdgesTest {
         e.due("back(1)", x.back(1), Edges.STATE);
         e.due("goes(1) from none", x.goes(1), 2);
         e.due("trace(), which is not among it", x.trace(), trace);
+    }
+
+    private static void readAnewInARoom() {
+        e.sentence("(Read anew: as told, nothing SOLVED, asked, FELT, IMAGES are gone.)");
+        String text = "r9 2 5;r3 1 7;d4 6;s3;s1;c1;w2;n50;";
+        DoorCases x = Edges.moment(text, y -> y.goes(1));
+        Due.tell(x, text);
+        e.due("now(0)", x.now(0), Edges.NONE);
+        e.due("now(1)", x.now(1), Edges.NONE);
+        e.due("does(0) in no room", x.does(0), Edges.STATE);
+        e.due("asks(0) in no room", x.asks(0), Edges.STATE);
+        e.due("goes(1) where he is no more", x.goes(1), 2);
+        Due.tell(x, "");
+        e.due("now(0) without rooms", x.now(0), Edges.NONE);
+        e.due("now(1) without rooms", x.now(1), Edges.NONE);
+    }
+
+    /** Nothing of a text before the last one is left, however many there were, with faults among them. */
+    private static void readAgainAndAgain() {
+        e.sentence("THE TEXT tells all anew");
+        DoorCases x = new DoorCases();
+        String[] texts = {"r1 1 1;r2 2 2;d3 4;d5 6;s7;s8;c1;w3;n77;", "s1;s2;s3;", "d1 1;", "r5 1 1;s9;", "w2;n5;"};
+        int[][] counts = {{2, 2, 2, 1, 3, 77}, {0, 0, 3, 0, 1, 120}, {0, 1, 0, 0, 1, 120}, {1, 0, 1, 0, 1, 120}, {0, 0, 0, 0, 2, 5}};
+        for (int i = 0; i < 8; i++) {
+            int k = i * 3 % 5;
+            Due.tell(x, texts[k]);
+            Due.tell(x, "r9 3 9;d9 9;s9;s8;c1;w9;n9;q");
+            for (int what = 0; what < 6; what++) {
+                e.due("count(" + what + ") behind '" + texts[k] + "'", x.count(what), counts[k][what]);
+            }
+        }
     }
 }
