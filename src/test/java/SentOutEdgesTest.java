@@ -25,6 +25,7 @@ public final class SentOutEdgesTest {
         roundFirst();
         roundFromWhere();
         unlikeNotSolved();
+        sentOutOfEachSoonest();
         roundParts();
         nothingToGoTo();
         moreThanHalf();
@@ -323,6 +324,21 @@ public final class SentOutEdgesTest {
         evening(x, 0, 0);
         x.undo();
         evening(x, 5, 1, 1);
+    }
+
+    private static void sentOutOfEachSoonest() {
+        e.sentence("SENT OUT of each SOONEST, that can be SOLVED till NIGHT");
+        DoorCases x = Due.told("r9 1 5;r9 1 6;d6 5;d4 9;w1;n30;");
+        evening(x, 11, 29, 0, 1);
+        x.goes(0);
+        x.does(1);
+        e.due("minutes NOW", x.now(2), 9);
+        evening(x, 11, 20, 0, 1);
+        x.does(1);
+        e.due("minutes NOW", x.now(2), 18);
+        evening(x, 5, 5, 0);
+        x.does(0);
+        evening(x, 0, 0);
     }
 
     private static void roundParts() {
